@@ -123,10 +123,11 @@ public final class ChanceTest {
         due.is("P36 n above", x.wild(1, 61, 0), -1);
         due.is("P36 what", x.wild(1, 1, 2), -1);
         due.is("P36 what below", x.wild(1, 1, -1), -1);
-        // 0 becomes 12345: bits 16 to 30 are 0; then -1043980748 (-15930 in its upper half): 16838.
+        // 0 becomes 12345, whose bits 16 to 30 are 0; then -740551042, whose bits are 21468.
         due.is("P36 first", x.wild(0, 1, 0), 1);
         due.is("P36 first not refused", x.wild(0, 1, 1), 0);
-        due.is("P36 second takes it back", x.wild(0, 2, 0), 1);
+        due.is("P36 second takes it back", x.wild(0, 2, 1), 0);
+        due.is("P36 who lives, lives on", x.wild(0, 2, 0), 1);
         due.is("P36 nothing is changed", x.rule(5), 0);
         due.is("P36 nobody came", x.rule(3), 0);
         due.is("P36 refused of 60", x.wild(7, 60, 1), asked(7, 60));
