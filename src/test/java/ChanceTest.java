@@ -62,6 +62,29 @@ public final class ChanceTest {
         x.forget(1);
         due.is("P34 the first alone", x.fits(0), 4);
         due.is("P34 by that wish", x.fits(2), 1);
+        x.forget(0);
+        x.see(0, false);
+        x.live(2, false);
+        x.see(2, false);
+        due.is("P34 both not, but for what brings none", x.fits(0), 2);
+        due.is("P34 in none of these", x.fits(3), 3);
+        x.live(0, true);
+        x.forget(0);
+        x.see(0, true);
+        x.see(2, true);
+        due.is("P34 both, one living already", x.fits(0), 4);
+        x.live(0, false);
+        due.is("P34 both by wishes", x.fits(0), 2);
+        due.is("P34 which are in all", x.fits(2), 3);
+        x.asks(1, 2, false);
+        due.is("P34 not the second", x.fits(0), 0);
+        WishClerk z = Due.told("one dead;wish 0 0 0;wish 0 0;wish 0 0;needs 2 0;");
+        z.see(0, false);
+        due.is("P34 the second or nothing", z.fits(0), 2);
+        due.is("P34 the first and the third in none", z.fits(3), 5);
+        z = Due.told("one dead;wish 0 0;wish 0 0 0;");
+        z.see(0, false);
+        due.is("P34 the second in none", z.fits(3), 2);
         WishClerk y = new WishClerk();
         due.is("P34 nothing at all", y.fits(0), 1);
         due.is("P34 nothing in none", y.fits(3), 0);
@@ -107,6 +130,12 @@ public final class ChanceTest {
         WishClerk y = Due.told("one barred;one dead;wish 0 0 0;wish 0 0 0 1;plan 0;plan 1;");
         due.is("P35 2 in 10, or 8 in 10 of 2 in 10", y.odds(2, 1, 0), 9);
         due.is("P35 by 25", y.odds(2, 1, 1), 25);
+        WishClerk z = Due.told("one dead;one dead;one alive;wish 0 0 0;wish 0 0 1;wish 0 0;clash 0 2;plan 0;plan 1;plan 2;");
+        due.is("P35 who came first, lives on", z.odds(0, 0, 0), 1);
+        due.is("P35 who lived, lives on", z.odds(0, 2, 0), 1);
+        z.asks(2, 1, true);
+        z.asks(1, 1, false);
+        due.is("P35 what came first, holds on", z.odds(0, 1, 0), 0);
         y.live(0, true);
         y.ask(0);
         y.live(0, false);
@@ -138,6 +167,32 @@ public final class ChanceTest {
         y.live(0, false);
         due.is("P36 taken back only", y.wild(5, 1, 0), 0);
         due.is("P36 taken back and asked", y.wild(5, 2, 0), 1);
+        WishClerk z = Due.told("one dead;one alive;wish 0 0 0;");
+        due.is("P36 who lived, lives on", z.wild(5, 1, 0), 3);
+        due.is("P36 asked, taken back, never refused", z.wild(5, 60, 1), 0);
+        WishClerk both = Due.told("wish 0 0;wish 0 0;clash 0 1;");
+        for (int n = 1; n <= 60; n++) {
+            due.is("P36 clash, " + n, both.wild(99, n, 1), shutOut(99, n));
+        }
+    }
+
+    /** How often one of two wishes that clash is asked while the other one holds. */
+    private static int shutOut(int seed, int n) {
+        long s = seed;
+        int holding = -1;
+        int times = 0;
+        for (int i = 0; i < n; i++) {
+            s = s * 1103515245L + 12345L & 0xffffffffL;
+            int w = (int) (s / 65536 % 32768 % 2);
+            if (holding == w) {
+                holding = -1;
+            } else if (holding >= 0) {
+                times++;
+            } else {
+                holding = w;
+            }
+        }
+        return times;
     }
 
     /** How often wish 1 of two, which is always refused, is asked. */

@@ -2,8 +2,11 @@ import java.util.Random;
 
 /** Long runs of calls, by fixed seeds, on the class and on PlainClerk: every answer must be alike. */
 public final class ModelTest {
-    private static final int RUNS = 400;
+    private static final int RUNS = 2000;
     private static final int CALLS = 500;
+    private static final int[] CHANGES = {9, 9, 10, 11, 12, 13, 13, 13, 14, 14, 14, 15, 15, 16};
+    private static final int[] AGAIN = {9, 21, 21, 38, 20, 40, 41, 24, 27};
+    private static final String EIGHT = "one dead;".repeat(8) + "wish 2 3;".repeat(8) + "plan 7;depth 1;";
 
     private final Random random;
     private final WishClerk x = new WishClerk();
@@ -28,15 +31,27 @@ public final class ModelTest {
         due.end("ModelTest");
     }
 
+    /** Some runs are of texts alone; the others tell a good one, change much of it, and then ask. */
     private void run(Due due, int seed, int[] seen, int[] good) {
-        boolean full = random.nextInt(4) > 0;
+        boolean textsAlone = seed % 5 == 0;
+        boolean eight = seed % 5 == 1;
+        int toChange = 0;
         while (left > 0) {
-            if (left == CALLS || random.nextInt(100) == 0 && left > 200) {
-                feedAll(due, seed, textOf(full));
-                one(due, seed, seen, good, 4);
-                one(due, seed, seen, good, 5);
+            if (textsAlone && left > 170 || x.rule(1) == 0 && left > 300) {
+                feedAll(due, seed, eight ? EIGHT : textOf(textsAlone));
+                call = "text";
+                due.is("seed " + seed + ": text", x.text(), y.text());
+                due.is("seed " + seed + ": fault", x.fault(), y.fault());
+                left -= 2;
+                toChange = 10 + random.nextInt(40);
+            } else if (toChange > 0) {
+                toChange--;
+                one(due, seed, seen, good, CHANGES[random.nextInt(CHANGES.length)]);
             } else {
-                one(due, seed, seen, good, 2 + random.nextInt(42));
+                int promise = 2 + random.nextInt(42);
+                // A text would mostly end all; and what is taken back or dead is to be asked for again.
+                promise = promise == 4 && random.nextInt(12) > 0 ? 5 : promise;
+                one(due, seed, seen, good, random.nextInt(3) == 0 ? AGAIN[random.nextInt(AGAIN.length)] : promise);
             }
         }
     }
@@ -58,11 +73,11 @@ public final class ModelTest {
         }
     }
 
-    /** A text that is mostly right, often with a byte changed. */
-    private String textOf(boolean full) {
+    /** A text that is mostly right or, with faults, often has a byte changed. */
+    private String textOf(boolean faults) {
         StringBuilder b = new StringBuilder();
-        int people = full ? 3 + random.nextInt(3) : random.nextInt(9);
-        int wishes = full ? 3 + random.nextInt(4) : random.nextInt(9);
+        int people = faults ? random.nextInt(10) : 3 + random.nextInt(3);
+        int wishes = faults ? random.nextInt(10) : 3 + random.nextInt(4);
         for (int p = 0; p < people; p++) {
             b.append("one ").append(new String[] {"alive", "dead", "barred", "dead", "barred"}[random.nextInt(5)]).append(";");
         }
@@ -74,22 +89,22 @@ public final class ModelTest {
             b.append(";");
         }
         String[] kinds = {"needs", "clash", "list", "plan", "depth", "needs", "clash", "plan"};
-        for (int i = random.nextInt(10); i > 0 && wishes > 0; i--) {
+        for (int i = faults ? random.nextInt(10) : 0; i > 0; i--) {
             String kind = kinds[random.nextInt(kinds.length)];
-            b.append(kind).append(random.nextInt(9) == 0 ? "  " : " ").append(random.nextInt(wishes));
+            b.append(kind).append(random.nextInt(9) == 0 ? "  " : " ").append(random.nextInt(wishes + 1));
             if (kind.equals("needs") || kind.equals("clash")) {
-                b.append(" ").append(random.nextInt(wishes));
+                b.append(" ").append(random.nextInt(wishes + 1));
             }
             b.append(";");
         }
-        if (random.nextInt(3) == 0 && b.length() > 0) {
+        if (faults && random.nextInt(3) == 0 && b.length() > 0) {
             b.setCharAt(random.nextInt(b.length()), " ;0189aAewo".charAt(random.nextInt(11)));
         }
         return b.substring(0, Math.min(b.length(), 160));
     }
 
     private int near(int most) {
-        return random.nextInt(12) == 0 ? random.nextInt(2) == 0 ? -1 : most + 1 : random.nextInt(most + 1);
+        return random.nextInt(25) == 0 ? random.nextInt(2) == 0 ? -1 : most + 1 : random.nextInt(most + 1);
     }
 
     private int wish() {
@@ -117,18 +132,18 @@ public final class ModelTest {
         switch (promise) {
             case 2: { int c = random.nextInt(3) == 0 ? near(127) : " ;one0".charAt(random.nextInt(6)); return both("feed " + c, x.feed(c), y.feed(c)); }
             case 3: { int n = near(x.count(4)); return both("end " + n, x.end(n), y.end(n)); }
-            case 4: return left < CALLS - 170 && random.nextInt(4) > 0 ? both("fault", x.fault(), y.fault()) : both("text", x.text(), y.text());
+            case 4: return both("text", x.text(), y.text());
             case 5: return both("fault", x.fault(), y.fault());
             case 6: { int n = near(7); return both("rule " + n, x.rule(n), y.rule(n)); }
             case 7: { int n = near(6); return both("wish " + w + " " + n, x.wish(w, n), y.wish(w, n)); }
             case 8: { int n = near(Math.max(0, x.rule(7) - 1)); return both("plan " + n, x.plan(n), y.plan(n)); }
-            case 9: { boolean so = random.nextInt(3) == 0; return both("live " + p + so, x.live(p, so), y.live(p, so)); }
-            case 10: return both("bar " + p + is, x.bar(p, is), y.bar(p, is));
-            case 11: { boolean so = random.nextInt(3) == 0; return both("list " + w + so, x.list(w, so), y.list(w, so)); }
-            case 12: { int n = near(8); n = random.nextInt(2) == 0 ? Math.min(n, 2) : n; return both("depth " + n, x.depth(n), y.depth(n)); }
+            case 9: { boolean so = random.nextInt(5) == 0; return both("live " + p + so, x.live(p, so), y.live(p, so)); }
+            case 10: { boolean so = random.nextInt(3) == 0; return both("bar " + p + so, x.bar(p, so), y.bar(p, so)); }
+            case 11: { boolean so = random.nextInt(5) == 0; return both("list " + w + so, x.list(w, so), y.list(w, so)); }
+            case 12: { int n = near(8); n = random.nextInt(4) > 0 ? Math.min(n, 2) : n; return both("depth " + n, x.depth(n), y.depth(n)); }
             case 13: { boolean so = random.nextInt(2) == 0; return both("asks " + w + p + so, x.asks(w, p, so), y.asks(w, p, so)); }
             case 14: { boolean so = random.nextInt(2) == 0; return both("needs " + w + v + so, x.needs(w, v, so), y.needs(w, v, so)); }
-            case 15: { boolean so = random.nextInt(2) == 0; return both("clash " + w + v + so, x.clash(w, v, so), y.clash(w, v, so)); }
+            case 15: { boolean so = random.nextInt(3) == 0; return both("clash " + w + v + so, x.clash(w, v, so), y.clash(w, v, so)); }
             case 16: return both("plans " + w, x.plans(w), y.plans(w));
             case 17: { int n = near(x.rule(7)); return both("cut " + n, x.cut(n), y.cut(n)); }
             case 18: return both("looks " + w, x.looks(w), y.looks(w));
@@ -144,7 +159,7 @@ public final class ModelTest {
     private long[] moreAnswers(int promise, int w, int p, boolean is) {
         int what = near(1);
         switch (promise) {
-            case 24: { int n = random.nextInt(3) == 0 ? 0 : random.nextInt(4) == 0 ? near(20) : 10 + random.nextInt(4); return both("row " + p + " " + n, x.row(p, n), y.row(p, n)); }
+            case 24: { int n = random.nextInt(2) == 0 ? 0 : random.nextInt(4) == 0 ? near(20) : 10 + random.nextInt(4); return both("row " + p + " " + n, x.row(p, n), y.row(p, n)); }
             case 25: return both("cheap " + p, x.cheap(p), y.cheap(p));
             case 26: return both("deep " + p, x.deep(p), y.deep(p));
             case 27: return both("fewest " + p + what, x.fewest(p, what), y.fewest(p, what));
@@ -159,9 +174,9 @@ public final class ModelTest {
             case 36: { int s = random.nextInt(); int n = near(60); return both("wild " + s + " " + n + " " + what, x.wild(s, n, what), y.wild(s, n, what)); }
             case 37: { int k = near(1); return both("keep " + k, x.keep(k), y.keep(k)); }
             case 38: { int k = near(1); return both("back " + k, x.back(k), y.back(k)); }
-            case 39: { int k = near(3); int lane = near(2); int n = random.nextInt(3) == 0 ? near(40) : near(4); return both("sheet " + k + lane + n, x.sheet(k, lane, n), y.sheet(k, lane, n)); }
+            case 39: { int k = near(3); int lane = random.nextInt(3) > 0 ? k % 3 : near(2); int n = random.nextInt(3) == 0 ? near(40) : near(4); return both("sheet " + k + lane + n, x.sheet(k, lane, n), y.sheet(k, lane, n)); }
             case 40: { int k = near(3); int i = near(4); int v = lay(); return both("lay " + k + i + " " + v, x.lay(k, i, v), y.lay(k, i, v)); }
-            case 41: { int k = near(3); int lane = near(2); int f = random.nextInt(9) == 0 ? random.nextInt() : near(3); int n = random.nextInt(4) == 0 ? near(20) : near(2); return both("read " + k + lane + f + n, x.read(k, lane, f, n), y.read(k, lane, f, n)); }
+            case 41: { int k = near(3); int lane = random.nextInt(6) > 0 ? k % 3 : near(2); int f = random.nextInt(9) == 0 ? random.nextInt() : near(3); int n = random.nextInt(4) == 0 ? near(20) : near(2); return both("read " + k + lane + f + n, x.read(k, lane, f, n), y.read(k, lane, f, n)); }
             case 42: return both("torn", x.torn(), y.torn());
             default: { int n = near(7); return both("count " + n, x.count(n), y.count(n)); }
         }

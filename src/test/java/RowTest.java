@@ -191,6 +191,13 @@ public final class RowTest {
         due.is("P31 round behind", x.date(0), -4);
         due.is("P31 aside", x.date(2), 9);
         x.needs(4, 3, false);
+        x.needs(1, 3, false);
+        x.needs(1, 0, true);
+        due.is("P31 round by 0", x.date(0), -4);
+        due.is("P31 round by 0 of 1", x.date(1), -4);
+        due.is("P31 beside the round", x.date(3), 4);
+        x.needs(1, 0, false);
+        x.needs(1, 3, true);
         x.needs(2, 1, true);
         due.is("P31 longer", x.date(0), 16);
         x.ask(1);

@@ -40,6 +40,8 @@ public final class SheetTest {
         x.plans(1);
         x.plans(1);
         x.forget(0);
+        x.see(0, false);
+        x.see(0, true);
         x.see(0, true);
         x.live(2, true);
         x.ask(1);
@@ -128,6 +130,11 @@ public final class SheetTest {
         x.sheet(0, 0, 2);
         due.is("P39 cells are 0 again", x.read(0, 0, 1, 1), 1);
         due.is("P39 wish 0 came", x.rule(5), 1);
+        x.take(0);
+        x.lay(0, 0, 1);
+        x.sheet(0, 1, 1);
+        due.is("P39 the first cell too", x.read(0, 1, 0, 1), 1);
+        due.is("P39 wish 0 came again", x.rule(5), 1);
     }
 
     private static void read() {
@@ -160,6 +167,7 @@ public final class SheetTest {
         due.is("P41 who lived, lives", x.rule(3), 1);
         x.lay(1, 2, 3);
         due.is("P41 listed", x.read(1, 2, 2, 1), -20);
+        due.is("P41 most", x.read(0, 0, 0, 20), 0);
     }
 
     private static void readFaults() {

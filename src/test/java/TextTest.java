@@ -7,6 +7,8 @@ public final class TextTest {
         tape();
         tellingText();
         keptOnFault();
+        nothingOfTheTextBefore();
+        severalLines();
         blanksAndRuns();
         faultOne();
         faultTwo();
@@ -118,6 +120,44 @@ public final class TextTest {
         due.is("P5 gone", x.fault(), 0);
     }
 
+    private static void nothingOfTheTextBefore() {
+        WishClerk x = Due.told("one alive;");
+        String whole = "one alive;one barred;wish 1 1 1;wish 1 1 0;needs 0 1;clash 0 1;list 1;depth 5;plan 1;";
+        due.is("P4 faulty", Due.tell(x, whole + "foo"), -10 - whole.length());
+        due.is("P4 taken", Due.tell(x, "one dead;wish 1 1;wish 1 1;"), 3);
+        int[] want = {1, 2, 0, 0, 0, 0, 0, 0};
+        for (int what = 0; what < want.length; what++) {
+            due.is("P4 nothing of the faulty one, rule " + what, x.rule(what), want[what]);
+        }
+        for (int what = 2; what <= 4; what++) {
+            due.is("P4 nothing of the faulty one, wish " + what, x.wish(0, what), 0);
+        }
+        Due.tell(x, whole);
+        x.list(1, false);
+        x.live(1, true);
+        x.ask(1);
+        x.see(0, true);
+        Due.tell(x, "one dead;wish 1 1;");
+        Due.tell(x, "one dead;wish 1 1;");
+        due.is("P4 nothing holds of the one before the last", x.rule(5), 0);
+        due.is("P4 nothing seen of it", x.count(2), 0);
+        due.is("P4 nobody lives of it", x.rule(3), 0);
+    }
+
+    private static void severalLines() {
+        String eight = "wish 0 0;wish 0 0;wish 0 0;wish 0 0;wish 0 0;wish 0 0;wish 0 0;wish 0 0;";
+        WishClerk x = Due.told(eight + "clash 7 0;clash 0 6;clash 5 7;list 7;list 2;plan 7;plan 1;needs 7 6;needs 7 5 4;");
+        due.is("P4 clashes of 0", x.wish(0, 4), 192);
+        due.is("P4 clashes of 7", x.wish(7, 4), 33);
+        due.is("P4 list", x.rule(6), 132);
+        due.is("P4 plan", x.plan(0), 7);
+        due.is("P4 needs", x.wish(7, 3), 112);
+        x = Due.told(eight + "needs 0 1 2 3 4 5 6 7;one dead;");
+        due.is("P4 needs all others", x.wish(0, 3), 254);
+        x = Due.told("one dead;one dead;one dead;one dead;one dead;one dead;one dead;one dead;wish 0 0 7 6 5 4 3 2 1 0;");
+        due.is("P4 needs all ones", x.wish(0, 2), 255);
+    }
+
     private static void blanksAndRuns() {
         WishClerk x = new WishClerk();
         due.is("P4 blanks", Due.tell(x, "  one   dead  ;  wish 1 01 00 ;  "), 2);
@@ -156,6 +196,9 @@ public final class TextTest {
 
     private static void faultTwo() {
         fault("foo;", 0, 2);
+        fault("zoo;", 0, 2);
+        fault("ine dead;", 0, 2);
+        fault("one dread;", 4, 2);
         fault("ones dead;", 0, 2);
         fault("on dead;", 0, 2);
         fault(";", 0, 2);
@@ -242,6 +285,11 @@ public final class TextTest {
         fault("wish 1 1;clash 0 1;", 19, 6);
         fault("wish 1 1;clash 1 0;", 19, 6);
         fault("list 0;  ", 9, 6);
+        String one = "one dead;wish 1 1 0;";
+        fault("wish 1 1 1;" + one, 31, 6);
+        for (String line : new String[] {"needs 0;", "clash 0 1;", "list 0;", "plan 0;"}) {
+            fault("plan 2;wish 1 1;wish 1 1;" + line, 25 + line.length(), 6);
+        }
         fault("wish 1 1;plan 1;", 16, 6);
     }
 
