@@ -375,10 +375,7 @@ public final class WishClerk {
         if (book.goesRound(book.follows[w])) {
             return NONE;
         }
-        for (int v = 0; v < book.wishes; v++) {
-            dates[v] = 0;
-        }
-        // Without a round each turn settles at least one wish more of those that follow.
+        // Without a round each turn settles at least one wish more of those that follow, whatever stood there.
         for (int turn = 0; turn < book.wishes; turn++) {
             for (int v = 0; v < book.wishes; v++) {
                 if (hasBit(book.follows[w], v)) {
@@ -434,7 +431,7 @@ public final class WishClerk {
         int mustLive = book.seenOnes(true);
         int mustNot = book.seenOnes(false);
         for (int group = 0; group < book.sets(); group++) {
-            int alive = book.lives | book.onesOf(book.followersOf(group));
+            int alive = book.lives | book.wantedBy(group);
             if ((mustLive & ~alive) == 0 && (mustNot & alive) == 0) {
                 fitting++;
                 least = least < 0 ? group : least;
@@ -771,14 +768,14 @@ public final class WishClerk {
                 follows[w] = lookedAt(w, 0, wishes);
             }
             for (int w = 0; w < wishes; w++) {
-                wanted[w] = onesOf(follows[w]);
+                wanted[w] = gather(ones, follows[w]);
             }
         }
 
         int lookedAt(int w, int held, int deep) {
             int group = 1 << w;
             for (int i = 0; i < deep; i++) {
-                int wider = group | (neededBy(group) & ~held);
+                int wider = group | (gather(needed, group) & ~held);
                 if (wider == group) {
                     break;
                 }
@@ -793,54 +790,33 @@ public final class WishClerk {
                 return 1;
             }
             int group = lookedAt(w, held, deep);
-            if ((onesOf(group) & barred & ~alive) != 0) {
+            if ((gather(ones, group) & barred & ~alive) != 0) {
                 return 2;
             }
-            return (clashingWith(group) & (group | held)) != 0 ? 3 : 0;
+            return (gather(clashing, group) & (group | held)) != 0 ? 3 : 0;
         }
 
-        int neededBy(int group) {
+        /** All that the wishes of a group have in one of the rows above, together. */
+        private int gather(int[] row, int group) {
             int found = 0;
             for (int w = 0; w < wishes; w++) {
                 if (hasBit(group, w)) {
-                    found |= needed[w];
-                }
-            }
-            return found;
-        }
-
-        int onesOf(int group) {
-            int found = 0;
-            for (int w = 0; w < wishes; w++) {
-                if (hasBit(group, w)) {
-                    found |= ones[w];
-                }
-            }
-            return found;
-        }
-
-        int clashingWith(int group) {
-            int found = 0;
-            for (int w = 0; w < wishes; w++) {
-                if (hasBit(group, w)) {
-                    found |= clashing[w];
+                    found |= row[w];
                 }
             }
             return found;
         }
 
         boolean haveClash(int group) {
-            return (clashingWith(group) & group) != 0;
+            return (gather(clashing, group) & group) != 0;
         }
 
         int followersOf(int group) {
-            int found = 0;
-            for (int w = 0; w < wishes; w++) {
-                if (hasBit(group, w)) {
-                    found |= follows[w];
-                }
-            }
-            return found;
+            return gather(follows, group);
+        }
+
+        int wantedBy(int group) {
+            return gather(wanted, group);
         }
 
         /** Those of the held of which one of the group follows. */
@@ -965,9 +941,7 @@ public final class WishClerk {
         /** The least cost, in wishes or in prices, of a charted row behind which a one lives, or NONE. */
         int leastCost(Book book, int p, boolean byPrice) {
             for (int held = states - 1; held >= start; held--) {
-                if (moves[held] == UNKNOWN) {
-                    costs[held] = FAR;
-                } else {
+                if (moves[held] != UNKNOWN) {
                     costs[held] = hasBit(alive[held], p) ? 0 : costOfNext(book, held, byPrice);
                 }
             }
