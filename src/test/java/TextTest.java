@@ -188,6 +188,17 @@ public final class TextTest {
         fault("wish 1 1 /", 9, 1);
         fault("wish 1 1 :", 9, 1);
         fault("123", 0, 1);
+        fault("one 123;", 4, 1);
+        fault("one dead 123;", 9, 1);
+        fault("wish 123 1;", 5, 1);
+        fault("wish 1 123;", 7, 1);
+        fault("wish 1 1 123;", 9, 1);
+        fault("needs 123;", 6, 1);
+        fault("needs 1 123;", 8, 1);
+        fault("clash 123 1;", 6, 1);
+        fault("clash 1 123;", 8, 1);
+        fault("list 123;", 5, 1);
+        fault("plan 123;", 5, 1);
         WishClerk x = new WishClerk();
         x.feed(0);
         due.is("P4 byte 0", x.text(), -10);
