@@ -106,6 +106,9 @@ final class ChanceEdges {
         e.at(35, "(those that HOLD then are left out)").tell("one dead;one dead;wish 0 0 0;wish 0 0 1;needs 1 0;plan 0;list 0;").is("odds 5 0 0", 1)
             .is("odds 5 0 1", 2).is("list 0 false", 1).is("odds 0 0 0", 1).is("ask 0", 1).is("live 0 false", 1).is("odds 5 0 0", 0)
             .is("odds 5 0 1", 1).is("plans 1", 2).is("odds 0 0 0", 1).is("rule 3", 0).is("rule 5", 1);
+        e.at(35, "THE PLAN is ASKED, WISH behind WISH").tell("one dead;wish 0 0;wish 0 0;wish 0 0 0;clash 0 2;plan 0;plan 1;plan 2;")
+            .is("odds 0 0 0", 0).is("odds 0 0 1", 1).is("odds 7 0 0", 7).is("odds 7 0 1", 10).is("cut 0", 3).call("plans 1", "plans 2")
+            .is("odds 0 0 0", 1).is("plans 0", 3).is("odds 0 0 0", 1).is("ask 0", 0).is("odds 0 0 0", 0);
     }
 
     private static void wild(Edges e) {
@@ -119,6 +122,10 @@ final class ChanceEdges {
         e.at(36, "it is ASKED, or, if it HOLDS, taken back").tell("one dead;wish 0 0 0;").is("ask 0", 1).is("list 0 true", 0)
             .is("wild 5 1 1", 0).is("wild 5 2 1", 1).is("wild 5 60 1", 59).is("live 0 false", 1).is("wild 5 60 0", 0).is("list 0 false", 1)
             .is("wild 5 1 0", 0).is("wild 5 2 0", 1).is("take 0", 1).is("wild 5 1 0", 1).is("rule 5", 0);
+        e.at(36, "it is ASKED, or, if it HOLDS, taken back").tell(Texts.EACH).is("clash 1 3 true", 0).is("wild 1 3 1", 0).is("wild 1 4 1", 1)
+            .is("wild 1 6 1", 3).is("wild 1 6 0", 66).is("clash 1 3 false", 1).is("clash 1 6 true", 0).is("wild 1 6 1", 0)
+            .is("clash 4 7 true", 0).is("wild 2 2 1", 0).is("wild 2 3 1", 1).is("wild 2 5 1", 1).is("wild 2 6 1", 2)
+            .is("needs 5 4 true", 0).is("wild 12345 4 1", 0).is("needs 5 7 true", 0).is("wild 12345 4 0", 180);
         e.at(36, "By itself").tell(Texts.EACH).call("ask 0").is("wild 2 60 0", 255).is("rule 3", 1).is("rule 5", 1).is("wild 2 1 0", 17)
             .is("wild 2 1 0", 17);
         e.at(36, "BAD").tell("wish 0 0;").each(BAD, "wild 0 0 0", "wild 0 61 0", "wild 0 1 -1", "wild 0 1 2", "wild 0 -1 0")

@@ -11,6 +11,7 @@ final class RowEdges {
 
     static void all(Edges e) {
         row(e);
+        longestRow(e);
         rowNone(e);
         cheap(e);
         deep(e);
@@ -46,6 +47,19 @@ final class RowEdges {
             .each(BAD, "row 0 -1", "row 0 1", "row 0 2", "row 0 9", "row 0 18", "row 0 " + LEAST, "row 0 " + MOST, "row 1 10")
             .is("row 0 0", 1).is("row 0 10", 0).is("row 0 17", NONE);
         e.at(24, "BAD").tell(Texts.EACH).each(BAD, "row 8 0", "row -1 0").is("row 7 0", 1).is("row 7 10", 7);
+    }
+
+    private static void longestRow(Edges e) {
+        Run run = e.at(24, "10 and i (0 to 7)").tell(Texts.SIX).is("row 1 0", 2).is("row 1 10", 4).is("row 1 11", 5);
+        for (int w = 0; w < 4; w++) {
+            run.call("clash 7 " + w + " true").is("row 1 0", 3 + w);
+        }
+        for (int i = 0; i < 8; i++) {
+            run.is("row 1 " + (10 + i), i < 6 ? i : NONE);
+        }
+        run.is("cheap 1", 6).is("fewest 1 0", 1).is("fewest 1 1", 1).is("deep 1", 2).is("all", 3).is("row 0 0", 1).is("row 0 10", 4);
+        run.is("depth 0", 1).is("row 1 0", 2).is("row 1 10", 4).is("row 1 12", NONE).is("depth 2", 0).is("row 1 0", NONE).is("row 1 10", NONE);
+        run.each(BAD, "row 1 9", "row 1 18");
     }
 
     private static void rowNone(Edges e) {
@@ -164,6 +178,10 @@ final class RowEdges {
         e.at(31, "its own and, besides, the most in which one that it NEEDS does").tell("wish 0 0;wish 0 0;wish 9 0;wish 1 0;needs 0 1 2 3;")
             .is("date 1", 0).is("date 0", 9).is("needs 0 2 false", 1).is("date 0", 1).is("needs 0 3 false", 1).is("date 0", 0)
             .is("needs 1 2 true", 0).is("date 0", 9).is("ask 0", 0).is("date 0", 9);
+        run = e.at(31, "the most in which one that it NEEDS does").tell("wish 9 0;".repeat(8));
+        for (int w = 1; w < 8; w++) {
+            run.call("needs " + w + " " + (w - 1) + " true").is("date " + w, 9 * (w + 1)).is("date 0", 9);
+        }
         e.at(31, "BAD").is("date 0", BAD).tell("wish 3 0;").each(BAD, "date -1", "date 1", "date 32", "date " + LEAST, "date " + MOST)
             .is("date 0", 3);
         e.at(31, "BAD").tell("wish 2 0;".repeat(8)).each(BAD, "date 8", "date -1").is("date 7", 2);

@@ -39,7 +39,9 @@ final class TextEdges {
         run.each(BAD, "wish 8 0", "wish -1 0").fault(Texts.WISHES + "wish 0 0;", 5, 72).is("rule 1", 8);
         e.at(TERMS, "YEARS (0 to 9)").lines("wish 0 5;wish 9 5;", 2).is("wish 0 0", 0).is("wish 1 0", 9).fault("wish 10 5;", 3, 5);
         e.at(TERMS, "a PRICE (0 to 9)").lines("wish 5 0;wish 5 9;", 2).is("wish 0 1", 0).is("wish 1 1", 9).fault("wish 5 10;", 3, 7);
-        e.at(TERMS, "WISHES with which it CLASHES (both ways)").tell(Texts.WISHES + "clash 7 0;").is("wish 7 4", 1).is("wish 0 4", 128);
+        e.at(TERMS, "WISHES with which it CLASHES (both ways)").tell(Texts.WISHES + "clash 7 0;").is("wish 7 4", 1).is("wish 0 4", 128)
+            .tell("wish 0 0;wish 0 0;wish 0 0;wish 0 0;clash 0 1;clash 0 2;clash 3 0;clash 1 2;").is("wish 0 4", 14).is("wish 1 4", 5)
+            .is("wish 2 4", 3).is("wish 3 4", 1);
         e.at(TERMS, "it HOLDS or not (at first not), it is on THE LIST or not").tell(Texts.WISHES + "list 7;list 0;")
             .is("rule 5", 0).is("rule 6", 129);
         e.at(TERMS, "DEPTH (0 to 8; 0 at first)").is("rule 2", 0).tell("depth 8;").is("rule 2", 8).tell("depth 0;").is("rule 2", 0)
@@ -67,11 +69,16 @@ final class TextEdges {
         run.is("wish 0 0", BAD).is("live 0 true", BAD);
         String small = "one dead;wish 1 1 0;";
         e.at(TERMS, "nothing HOLDS").tell(small).is("ask 0", 1).is("rule 5", 1).lines(small, 2).is("rule 5", 0).is("count 1", 0)
-            .is("rule 3", 0).is("ask 0", 1).is("text", 0).is("rule 5", 0).is("clashes", 0).is("broken", 0);
+            .is("rule 3", 0).is("ask 0", 1).is("text", 0).is("rule 5", 0).is("clashes", 0).is("broken", 0).lines(small, 2)
+            .is("rule 5", 0).is("rule 3", 0).is("ask 0", 1).lines(small, 2).lines(small, 2).is("rule 5", 0).is("rule 3", 0);
         e.at(TERMS, "nothing is SEEN").tell(small).is("see 0 true", 1).is("see 0 false", 2).is("fits 0", 0).lines(small, 2)
-            .is("count 2", 0).is("fits 0", 2).is("forget 1", BAD).is("see 0 true", 1).is("fits 0", 1);
+            .is("count 2", 0).is("fits 0", 2).is("forget 1", BAD).is("see 0 true", 1).is("fits 0", 1).lines(small, 2)
+            .is("count 2", 0).is("fits 0", 2).is("see 0 false", 1).lines(small, 2).lines(small, 2).is("count 2", 0).is("fits 0", 2);
         e.at(TERMS, "IMAGES are gone").tell(small).call("keep 0", "keep 1").is("count 3", 2).lines(small, 2).is("count 3", 0)
             .each(STATE, "back 0", "back 1").is("keep 0", 0).is("keep 1", 0).is("text", 0).each(STATE, "back 0", "back 1");
+        e.at(TERMS, "A text that is taken tells all").is("sheet 0 1 3", 1).is("sheet 3 2 1", 1).is("lay 0 2 1", 1).is("read 1 0 0 1", 0)
+            .lines("wish 0 0;wish 0 0;", 2).is("count 5", 3).is("torn", 1).is("read 0 1 2 1", 1).is("rule 5", 2).is("text", 0).is("count 5", 3)
+            .is("lay 3 0 0", 1).is("lay 3 1 0", -12).is("lay 1 0 0", -11);
         e.at(4, "that which was told stays").tell(whole).call("list 1 false", "live 1 true", "clash 0 1 false", "ask 0", "keep 1")
             .call("see 0 true", "see 1 false", "sheet 0 1 3", "lay 0 0 1").fault("one dead;wish 9 9;depth 8;list 0;fo", 2, 33)
             .is("rule 5", 3).is("count 2", 2).is("count 3", 1).is("back 1", 3).is("rule 2", 3).is("back 0", STATE);

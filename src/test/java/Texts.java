@@ -12,6 +12,13 @@ final class Texts {
     static final String FOUR = "one barred;one barred;one barred;one dead;wish 0 1 2 3;wish 0 1 1;wish 0 1 0;wish 0 1;"
             + "wish 0 1 2;wish 0 1 1;wish 0 1 0;needs 1 4;needs 2 5;needs 3 6;";
 
+    /**
+     * The longest row found: wish 4 brings, unseen, a barred one and wish 7. Wish 5 asks for that one and needs wishes 0
+     * to 3, which, once they clash with wish 7, must hold ahead of it so that the clerk does not look at them.
+     */
+    static final String SIX = "one barred;one dead;wish 0 1;wish 0 1;wish 0 1;wish 0 1;wish 0 1;wish 0 1 0 1;wish 0 1;wish 0 1 0;"
+            + "needs 4 6;needs 6 7;needs 5 0 1 2 3;depth 1;";
+
     private Texts() {
     }
 }

@@ -8,6 +8,7 @@ final class TokenEdges {
     static void all(Edges e) {
         tokens(e);
         lineBegins(e);
+        letters(e);
         kinds(e);
         numbers(e);
         stops(e);
@@ -63,6 +64,18 @@ final class TokenEdges {
             }
             fault(e, "a NUMBER that is too long (its first byte)", ahead + "100", 1, place);
             taken(e, "text: { line }", ahead, place < 2 ? 0 : 1);
+        }
+    }
+
+    /** Names that are another one in one letter alone. */
+    private static void letters(Edges e) {
+        for (String name : new String[] {"one", "wish", "needs", "clash", "list", "depth", "plan", "alive", "dead", "barred"}) {
+            boolean kind = name.equals("alive") || name.equals("dead") || name.equals("barred");
+            String ahead = kind ? "one " : "";
+            Run run = e.at(TERMS, kind ? "is no K" : "a NAME that begins no line");
+            for (int i = 0; i < name.length(); i++) {
+                run.fault(ahead + name.substring(0, i) + "x" + name.substring(i + 1) + " 0", 2, ahead.length());
+            }
         }
     }
 
@@ -166,6 +179,8 @@ final class TokenEdges {
             .lines("wish 0 0;wish 0 0;needs 0 1;needs 1 0;", 4).lines("wish 0 0;wish 0 0;clash 0 1;needs 0 1;", 4);
         e.at(TERMS, "CLASHES with it already").fault("clash 0 1;clash 0 1;", 4, 18).fault("clash 0 1;clash 1 0", 4, 18)
             .lines("wish 0 0;wish 0 0;wish 0 0;clash 0 1;clash 0 2;clash 1 2;", 6).lines("wish 0 0;wish 0 0;needs 0 1;clash 0 1;", 4);
+        e.at(TERMS, "CLASHES with it already").fault("clash 0 1;clash 0 2;clash 0 1;", 4, 28).fault("clash 1 0;clash 2 0;clash 1 0;", 4, 28)
+            .fault("clash 0 1;clash 2 0;clash 1 0;", 4, 28).fault("clash 1 0;clash 0 2;clash 0 1;", 4, 28);
         e.at(TERMS, "a WISH on THE LIST already (it)").fault("list 0;list 0;", 4, 12).fault("list 7;list 6;list 07", 4, 19)
             .lines("wish 0 0;wish 0 0;list 0;list 1;", 4).lines("wish 0 0;list 0;", 2).lines("wish 0 0;list 0;", 2);
         e.at(TERMS, "plan: a WISH more of THE PLAN").lines("wish 0 0;plan 0;plan 0;", 3).is("rule 7", 2);
@@ -205,6 +220,14 @@ final class TokenEdges {
                 .fault("wish 0 0;".repeat(7) + last, 6, 63 + line.length());
         }
         e.at(TERMS, "Behind all (the length): 6 a ONE").fault(" ".repeat(153) + "list 0;", 6, 160);
+        for (String line : new String[] {"needs 0;", "needs 0 1;", "clash 0 1;", "list 0;", "plan 0;", "wish 0 0;", "wish 0 0 0;"}) {
+            e.at(TERMS, "Behind all (the length): 6 a ONE").fault("one dead;wish 0 0 1;wish 0 0 0;" + line, 6, 31 + line.length())
+                .lines("one dead;wish 0 0 0;wish 0 0 0;" + line, 4);
+            e.at(TERMS, "a WISH that there is not").fault("plan 7;one dead;wish 0 0;wish 0 0;" + line, 6, 34 + line.length())
+                .fault("clash 3 0;one dead;wish 0 0;wish 0 0;" + line, 6, 37 + line.length())
+                .fault("list 3;one dead;wish 0 0;wish 0 0;" + line, 6, 34 + line.length())
+                .fault("needs 3;one dead;wish 0 0;wish 0 0;" + line, 6, 35 + line.length());
+        }
     }
 
     private static void firstMet(Edges e) {
