@@ -4,8 +4,9 @@ import java.util.List;
 import java.util.Map;
 
 /**
- * All that can be learnt of an object from outside. Much of it (cells, images, what was seen, the tape) is learnt
- * only by calls that change it, so each part looks at an object of its own to which the same run was done.
+ * What can be learnt of an object from outside. Much of it (cells, images, what was seen, the tape) is learnt
+ * only by calls that change it, so each part looks at an object of its own to which the same run was done. It is not
+ * all: of a sheet five cells are read, and of the tape only what text() makes of it is seen.
  */
 final class Look {
     private static final int MOST_CALLS = 512;
