@@ -6,7 +6,9 @@ import java.lang.reflect.Modifier;
 import java.nio.file.Files;
 import java.nio.file.Path;
 import java.util.Arrays;
+import java.util.Map;
 import java.util.Set;
+import java.util.TreeMap;
 import java.util.TreeSet;
 import java.util.regex.Matcher;
 import java.util.regex.Pattern;
@@ -24,6 +26,10 @@ public final class FaceTest {
         "lay(int,int,int)int", "read(int,int,int,int)int", "torn()int", "count(int)int"};
     private static final String[] RULED_OUT = {"throw", "throws", "try", "catch", "synchronized", "assert", "import",
         "package", "protected", "var", "Object", "Random", "Thread", "native", "volatile"};
+    /** A method begins on a line that ends with ") {" and ends with the first brace as far in as that line. */
+    private static final Pattern METHOD = Pattern.compile(
+        "(?m)^( {4}| {8})(?!if|for|while|switch|\\})[a-zA-Z][^=;\n]*?(\\w+)\\([^=;\n]*\\) \\{\n((?:.*\n)*?)\\1\\}\n");
+    private static final int MOST_DEEP = 8;
     private static final Due due = new Due();
 
     public static void main(String[] args) throws IOException {
@@ -96,14 +102,29 @@ public final class FaceTest {
         due.is("signs", code.chars().allMatch(c -> c == '\n' || c >= 32 && c < 127) ? 1 : 0, 1);
     }
 
-    /** A method begins on a line that ends with ") {" and ends with the first brace as far in as that line. */
     private static void methods(String code) {
-        Matcher m = Pattern.compile("(?m)^( {4}| {8})(?!if|for|while|switch|\\})[a-zA-Z][^=;\n]*\\) \\{\n((?:.*\n)*?)\\1\\}\n").matcher(code);
-        int found = 0;
+        Map<String, String> bodies = new TreeMap<>();
+        Matcher m = METHOD.matcher(code);
         while (m.find()) {
-            found++;
-            due.is("short: " + m.group().trim().split("\n")[0], m.group(2).lines().count() <= 60 ? 1 : 0, 1);
+            due.is("short: " + m.group(2), m.group(3).lines().count() <= 60 ? 1 : 0, 1);
+            due.is("one method of this name: " + m.group(2), bodies.put(m.group(2), m.group(3)) == null ? 1 : 0, 1);
         }
-        due.is("methods are found", found > 60 ? 1 : 0, 1);
+        due.is("methods are found", bodies.size() > 60 ? 1 : 0, 1);
+        for (String name : bodies.keySet()) {
+            int deep = depthOfCalls(name, bodies, 1);
+            due.is("calls go eight deep at most: " + name + " goes " + deep, deep <= MOST_DEEP ? 1 : 0, 1);
+        }
+    }
+
+    /** Names are unlike, so a name with a bracket behind it is the call of that method; what calls itself has no end here. */
+    private static int depthOfCalls(String name, Map<String, String> bodies, int level) {
+        int deepest = 1;
+        Matcher m = Pattern.compile("(\\w+)\\(").matcher(bodies.get(name));
+        while (level <= MOST_DEEP && m.find()) {
+            if (bodies.containsKey(m.group(1))) {
+                deepest = Math.max(deepest, 1 + depthOfCalls(m.group(1), bodies, level + 1));
+            }
+        }
+        return deepest;
     }
 }

@@ -9,6 +9,7 @@ final class SheetEdges {
 
     static void all(Edges e) {
         keep(e);
+        fullImage(e);
         back(e);
         sheet(e);
         lay(e);
@@ -43,6 +44,24 @@ final class SheetEdges {
         }
         run.is("wish 0 2", 1).is("wish 0 3", 0).is("wish 0 4", 0).is("wish 1 4", 0).is("wish 6 4", 128).is("plan 0", 7).is("plan 1", 6);
         run.is("count 2", 2).is("fits 3", 64).is("fits 0", 128).is("live 7 false", 1).is("fits 2", 128);
+    }
+
+    /** Every place of a full plan and of a full row of what was seen comes back, behind others that stood there. */
+    private static void fullImage(Edges e) {
+        Run run = e.at(37, "THE PLAN, what was SEEN").tell(Texts.EACH);
+        for (int i = 0; i < 8; i++) {
+            run.call("see " + i + " true", "plans " + (7 - i));
+        }
+        run.is("rule 7", 6).is("count 2", 8).is("fits 0", 1).is("fits 1", 255).is("keep 0", 0).call("forget 0", "cut 0");
+        for (int i = 0; i < 8; i++) {
+            run.call("see " + (7 - i) + " " + (i % 2 == 0), "plans 0");
+        }
+        run.is("fits 0", 1).is("fits 1", 170).is("fits 3", 85).is("keep 1", 0).is("back 0", 0).is("count 2", 8).is("fits 1", 255).is("fits 0", 1);
+        for (int i = 0; i < 6; i++) {
+            run.is("plan " + i, 7 - i);
+        }
+        run.call("forget 7", "see 0 true").is("fits 1", 127).is("back 1", 0).is("count 2", 8).is("fits 1", 170).is("fits 3", 85).is("plan 5", 0);
+        run.call("forget 7", "see 7 true").is("fits 1", 170).is("fits 3", 84).is("back 1", 0).is("fits 3", 85).is("back 0", 0).is("fits 1", 255);
     }
 
     private static void back(Edges e) {
